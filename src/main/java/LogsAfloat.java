@@ -300,12 +300,13 @@ public final class LogsAfloat {
     }
 
     public int rests() {
-        if (weighsNothing()) {
-            return STATE;
-        }
         int bits = 0;
         for (int turn = 0; turn < TURNS; turn++) {
-            if (settle(turn) == DONE && holding(turn) == 2) {
+            int settled = settle(turn);
+            if (settled == STATE) {
+                return STATE;
+            }
+            if (settled == DONE && holding(turn) == 2) {
                 bits |= 1 << turn;
             }
         }
@@ -497,20 +498,17 @@ public final class LogsAfloat {
         return whole;
     }
 
-    private boolean weighsNothing() {
-        return cut.squares() == 0 || wholeWeight() == 0;
-    }
-
     /** Lays the log into the water: DONE, or what a call that needs it afloat is refused with. */
     private int settle(int turn) {
         if (!isTurn(turn)) {
             return BAD;
         }
-        if (weighsNothing()) {
+        int whole = wholeWeight();
+        if (whole == 0 || cut.squares() == 0) {
             return STATE;
         }
         lie.turnTo(cut, turn);
-        return lie.bears(wholeWeight(), density) ? DONE : SINKS;
+        return lie.bears(whole, density) ? DONE : SINKS;
     }
 
     /** Twice ALL times the x of G: in halves, so that it is whole. */
@@ -753,7 +751,7 @@ public final class LogsAfloat {
 
         int waysInto(int y) {
             int wholeRow = (1 << width) - 1;
-            int ends = 1 | 1 << (width - 1);
+            int ends = 1 | (1 << (width - 1));
             return y == 0 ? wholeRow : ends;
         }
 
@@ -763,7 +761,7 @@ public final class LogsAfloat {
             for (int pass = 0; more && pass <= MOST_PLACES; pass++) {
                 more = false;
                 for (int y = 0; y <= row; y++) {
-                    int reached = wet[y] | wet[y] << 1 | wet[y] >> 1;
+                    int reached = wet[y] | (wet[y] << 1) | (wet[y] >> 1);
                     reached |= y > 0 ? wet[y - 1] : 0;
                     reached |= y < row ? wet[y + 1] : 0;
                     reached &= open[y];
@@ -774,7 +772,7 @@ public final class LogsAfloat {
         }
 
         int firm(int y) {
-            return (1 << width) - 1 & ~wet[y];
+            return ((1 << width) - 1) & ~wet[y];
         }
 
         void countFirm() {
@@ -816,17 +814,17 @@ public final class LogsAfloat {
             if (y > row) {
                 return 0;
             }
-            if ((wet[y] >> x & 1) == 1) {
+            if (((wet[y] >> x) & 1) == 1) {
                 return 1;
             }
-            return (open[y] >> x & 1) == 0 ? 2 : 3;
+            return ((open[y] >> x) & 1) == 0 ? 2 : 3;
         }
 
         /** The sum of 2 x + 1 over a row of places. */
         int halves(int places) {
             int sum = 0;
             for (int x = 0; x < width; x++) {
-                sum += (places >> x & 1) * (2 * x + 1);
+                sum += ((places >> x) & 1) * (2 * x + 1);
             }
             return sum;
         }
@@ -874,7 +872,7 @@ public final class LogsAfloat {
             long number = Integer.bitCount(places);
             long thirds = 0;
             for (int x = 0; x < width; x++) {
-                thirds += (places >> x & 1) * (3 * x * x + 3 * x + 1);
+                thirds += ((places >> x) & 1) * (3 * x * x + 3 * x + 1);
             }
             long halves = halves(places);
             breadthUpper = 4 * number * thirds - 3 * halves * halves;

@@ -203,6 +203,10 @@ public final class AfloatTest {
         Due.told(22, "middle(1, 3) beside the log", x.middle(1, 3), x, 12, 1);
         Due.told(22, "middle(2, 3) beside the log", x.middle(2, 3), x, -19, 2);
         Due.told(22, "middle(3, 3) beside the log", x.middle(3, 3), x, -9, 1);
+        LogsAfloat high = Logs.drawn(10, "0", "0", "0", "0", "0");
+        high.load(0, 1, 2, 10);
+        Due.told(22, "middle(1, 2) of a high one", high.middle(1, 2), high, 4, 1);
+        Due.told(22, "middle(2, 3) of a high one", high.middle(2, 3), high, 4, 1);
     }
 
     private static void ropesPointUp() {

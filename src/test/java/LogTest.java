@@ -131,6 +131,9 @@ public final class LogTest {
         Due.finds(6, "lay(5, 3, 1)", x.lay(5, 3, 1), x, BEYOND);
         Due.is(6, "sheet(5, 12) anew", x.sheet(5, 12), 12);
         Due.is(6, "lay(5, 11, 1): bytes are 0", x.lay(5, 11, 1), 1000);
+        x.lay(5, 0, 9);
+        x.sheet(5, 1);
+        Due.is(6, "lay(5, 0, 1): the first one, too", x.lay(5, 0, 1), 1000);
     }
 
     private static void lay() {
@@ -241,6 +244,12 @@ public final class LogTest {
         Due.is(10, "at(0, 0)", x.at(0, 0), NONE);
         Due.is(10, "at(1, 0)", x.at(1, 0), 20);
         Due.is(10, "count(2)", x.count(2), 4);
+        x.log(1, 1);
+        Due.is(10, "fill(0, 1) of one place", x.fill(0, 1), 0);
+        x.log(12, 12);
+        Due.finds(10, "fill(11, 1) of twelve places", x.fill(11, 1), x, BEYOND);
+        x.sheet(1, 12);
+        Due.is(10, "fill(11, 1) of twelve places", x.fill(11, 1), 12);
     }
 
     private static void all() {
