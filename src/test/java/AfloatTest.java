@@ -149,13 +149,8 @@ public final class AfloatTest {
         Due.told(20, "draft(0) with a hole", x.draft(0), x, 79, 30);
     }
 
-    /** The left side is lower than the right one: above 2 the water comes over it. */
-    private static LogsAfloat boat() {
-        return Logs.drawn(10, "...1", "1..1", "1111");
-    }
-
     private static void rim() {
-        LogsAfloat x = boat();
+        LogsAfloat x = Logs.boat();
         Due.told(20, "draft(0)", x.draft(0), x, 7, 40);
         Due.is(28, "carries(0)", x.carries(0), 73);
         x.load(0, 4, 0, 58);
@@ -356,7 +351,7 @@ public final class AfloatTest {
     }
 
     private static void room() {
-        LogsAfloat x = boat();
+        LogsAfloat x = Logs.boat();
         long[][] due = {{0, 1, 0, 1}, {1, 2, 2, 1}, {1, 1, 4, 1}, {1, 12, 1, 3}, {2, 1, 8, 1}, {5, 2, 13, 2}, {3, 1, 7, 1},
             {24, 12, 8, 1}, {24, 8, 7, 1}, {9, 4, 25, 4}};
         for (long[] d : due) {

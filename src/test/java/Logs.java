@@ -1,3 +1,5 @@
+import java.util.Arrays;
+
 /** Logs drawn as texts, for tests: the top row first, a digit or letter a square's weight (a is 10), '.' none. */
 final class Logs {
     private Logs() {
@@ -16,5 +18,17 @@ final class Logs {
             }
         }
         return log;
+    }
+
+    /** Squares alike in all w by h places. */
+    static LogsAfloat solid(int water, int w, int h, int weight) {
+        String[] rows = new String[h];
+        Arrays.fill(rows, String.valueOf(Character.forDigit(weight, 36)).repeat(w));
+        return drawn(water, rows);
+    }
+
+    /** A boat of weight 7 whose left side is lower than the right one: above 2 the water comes over it. */
+    static LogsAfloat boat() {
+        return drawn(10, "...1", "1..1", "1111");
     }
 }
